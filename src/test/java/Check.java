@@ -1,28 +1,51 @@
-/** What all tests share: answers that are due, and boards with cues from a text. */
-final class Check {
-    static final int UNKNOWN = -1;
-    static final int BAD_VALUE = -2;
-    static final int FULL = -3;
-    static final int NOT_POSSIBLE = -4;
-    static final int NONE = -5;
+import java.util.ArrayList;
+import java.util.LinkedHashMap;
+import java.util.List;
+import java.util.Map;
 
+/** What all tests share: the sentence that is tested now, and how much was wrong. */
+final class Check {
+    private static final int MOST_LINES = 60;
+
+    private static final Map<String, List<String>> SENTENCES = new LinkedHashMap<>();
+    private static String now = "";
+    private static int tests = 0;
     private static int wrong = 0;
 
     private Check() {
     }
 
-    static void due(String call, int got, int want) {
-        if (got != want) {
+    /** Begins the test of a sentence, told to the letter, of a section of the document. */
+    static Board of(String section, String sentence) {
+        SENTENCES.computeIfAbsent(section, s -> new ArrayList<>()).add(sentence);
+        now = section + ", \"" + sentence + "\"";
+        tests++;
+        return new Board();
+    }
+
+    /** Begins a test of what is no sentence of the document. */
+    static void that(String what) {
+        now = what;
+        tests++;
+    }
+
+    static void holds(boolean isSo, String what) {
+        if (!isSo) {
             wrong++;
-            System.out.println(call + " answered " + got + ", due is " + want);
+            if (wrong <= MOST_LINES) {
+                System.out.println(now + ": " + what);
+            }
         }
     }
 
-    static void holds(String what, boolean isSo) {
-        if (!isSo) {
-            wrong++;
-            System.out.println("not so: " + what);
+    static void due(String call, int got, int want) {
+        if (got != want) {
+            holds(false, call + " answered " + got + ", due is " + want);
         }
+    }
+
+    static Map<String, List<String>> sentences() {
+        return SENTENCES;
     }
 
     static int wrongSoFar() {
@@ -30,44 +53,9 @@ final class Check {
     }
 
     static void finish() {
+        System.out.println(tests + " tests, " + wrong + " answers not as due");
         if (wrong != 0) {
-            System.out.println(wrong + " answers are not as due");
             System.exit(1);
         }
-    }
-
-    static void typeAll(LentSounds x, String text) {
-        for (char character : text.toCharArray()) {
-            x.type(character);
-        }
-    }
-
-    /** Reads a text of its own, whatever was typed before. */
-    static int read(LentSounds x, String text) {
-        x.clearText();
-        typeAll(x, text);
-        return x.readCues();
-    }
-
-    static LentSounds board(String... texts) {
-        LentSounds x = new LentSounds();
-        for (String text : texts) {
-            holds("the text " + text + " can be read", read(x, text) > 0);
-        }
-        x.clearText();
-        return x;
-    }
-
-    /** The four things that stand written of a cue, as one text. */
-    static String cueText(LentSounds x, int cue) {
-        return x.cue(cue, 0) + "@" + x.cue(cue, 1) + "s" + x.cue(cue, 2) + "*" + x.cue(cue, 3);
-    }
-
-    static void cuesAre(LentSounds x, String want) {
-        StringBuilder all = new StringBuilder();
-        for (int cue = 0; cue < x.count(0); cue++) {
-            all.append(cue == 0 ? "" : ",").append(cueText(x, cue));
-        }
-        holds("the cues are " + want + " (they are " + all + ")", all.toString().equals(want));
     }
 }

@@ -5,102 +5,114 @@ import java.lang.reflect.Modifier;
 import java.nio.file.Files;
 import java.nio.file.Path;
 import java.util.List;
+import java.util.Map;
 import java.util.Set;
 import java.util.TreeSet;
-import java.util.regex.Pattern;
+import java.util.stream.Collectors;
+import java.util.stream.Stream;
 
-/** The public face of the document, and what LANGUAGE.md forbids by a word or a modifier. */
-public final class FaceTest {
+/** The public face: the constants, the constructor, the methods, and the headings above them. */
+final class FaceTest {
     private static final Set<String> CONSTANTS = Set.of("UNKNOWN=-1", "BAD_VALUE=-2", "FULL=-3",
             "NOT_POSSIBLE=-4", "NONE=-5");
-    private static final Set<String> METHODS = Set.of("setSound(int,int,int)", "setHands(int)",
-            "send(int,int)", "setCarrying(int)", "readCues()", "removeCue(int)", "shift(int,int)",
-            "cutScene(int)", "take()", "type(char)", "clearText()", "undo()", "keep()",
-            "restore()", "sound(int,int)", "cue(int,int)", "hand(int,int)", "scene(int,int)",
-            "missed(int)", "ifHands(int)", "cleanTakes()", "count(int)");
-    private static final List<String> FORBIDDEN_WORDS = List.of("throw", "throws", "try", "catch",
-            "finally", "synchronized", "assert", "import", "package", "protected", "yield",
-            "native", "volatile", "transient");
 
-    public static void main(String[] args) throws Exception {
-        constants();
-        methods();
-        classesInside();
-        words();
-        Check.finish();
+    /** From the second promise on, in their order. */
+    private static final List<String> METHODS = List.of("setSound(int sound, int what, int value)",
+            "setHands(int hands)", "send(int hand, int shelf)", "setCarrying(int ticks)",
+            "readCues()", "removeCue(int cue)", "shift(int scene, int ticks)",
+            "cutScene(int scene)", "take()", "type(char character)", "clearText()", "undo()",
+            "keep()", "restore()", "sound(int sound, int what)", "cue(int cue, int what)",
+            "hand(int hand, int what)", "scene(int scene, int what)", "missed(int rank)",
+            "ifHands(int hands)", "cleanTakes()", "count(int what)");
+
+    private static final Map<String, List<String>> HEADINGS = Map.of(
+            "sounds, hands, settings", List.of("setSound", "setHands", "send", "setCarrying"),
+            "cues", List.of("readCues", "removeCue", "shift", "cutScene"),
+            "takes", List.of("take"),
+            "texts", List.of("type", "clearText"),
+            "history", List.of("undo", "keep", "restore"),
+            "what is told", List.of("sound", "cue", "hand", "scene", "missed", "ifHands",
+                    "cleanTakes", "count"));
+
+    private FaceTest() {
     }
 
-    private static void constants() throws Exception {
+    static void run() throws ReflectiveOperationException, IOException {
+        constants();
+        constructor();
+        methods();
+        names();
+        headings();
+    }
+
+    private static void constants() throws IllegalAccessException {
+        Check.that("the constants are those of the document");
         Set<String> seen = new TreeSet<>();
         for (Field field : LentSounds.class.getDeclaredFields()) {
             int modifiers = field.getModifiers();
             if (!Modifier.isPrivate(modifiers)) {
-                boolean isConstant = Modifier.isPublic(modifiers) && Modifier.isStatic(modifiers)
-                        && Modifier.isFinal(modifiers) && field.getType() == int.class;
-                Check.holds(field + " is a constant", isConstant);
+                Check.holds(Modifier.isPublic(modifiers) && Modifier.isStatic(modifiers)
+                        && Modifier.isFinal(modifiers) && field.getType() == int.class,
+                        field + " is no constant");
                 seen.add(field.getName() + "=" + field.getInt(null));
             }
         }
-        Check.holds("the constants are those of the document: " + seen, seen.equals(CONSTANTS));
+        Check.holds(seen.equals(CONSTANTS), "they are " + seen);
+    }
+
+    private static void constructor() {
+        Check.of("Promise 1", "`LentSounds()`:");
+        int modifiers = LentSounds.class.getModifiers();
+        Check.holds(Modifier.isPublic(modifiers) && Modifier.isFinal(modifiers),
+                "the class is not public and final");
+        Check.holds(LentSounds.class.getDeclaredConstructors().length == 1
+                && LentSounds.class.getConstructors().length == 1
+                && LentSounds.class.getConstructors()[0].getParameterCount() == 0,
+                "there is not just one constructor, a public one without parameters");
     }
 
     private static void methods() {
-        Set<String> seen = new TreeSet<>();
-        Set<String> publicNames = new TreeSet<>();
-        METHODS.forEach(method -> publicNames.add(method.substring(0, method.indexOf('('))));
-        for (Method method : LentSounds.class.getDeclaredMethods()) {
-            if (Modifier.isPrivate(method.getModifiers())) {
-                Check.holds(method + " has a name of its own",
-                        !publicNames.contains(method.getName()));
-            } else {
-                Check.holds(method + " is public and answers an int",
-                        Modifier.isPublic(method.getModifiers())
-                        && !Modifier.isStatic(method.getModifiers())
-                        && method.getReturnType() == int.class);
-                seen.add(nameAndTypes(method));
-            }
+        Set<String> seen = Stream.of(LentSounds.class.getDeclaredMethods())
+                .filter(method -> !Modifier.isPrivate(method.getModifiers()))
+                .map(FaceTest::typesOf).collect(Collectors.toCollection(TreeSet::new));
+        for (int i = 0; i < METHODS.size(); i++) {
+            Check.of("Promise " + (i + 2), "`int " + METHODS.get(i) + "`:");
+            String types = METHODS.get(i).replaceAll(" [a-z]+(?=[,)])", "");
+            Check.holds(seen.remove("public int " + types), "there is no such method");
         }
-        Check.holds("the methods are those of the document: " + seen, seen.equals(METHODS));
-        int modifiers = LentSounds.class.getModifiers();
-        Check.holds("the class is public and final",
-                Modifier.isPublic(modifiers) && Modifier.isFinal(modifiers));
-        Check.holds("one constructor, a public one without parameters",
-                LentSounds.class.getDeclaredConstructors().length == 1
-                && LentSounds.class.getConstructors().length == 1
-                && LentSounds.class.getConstructors()[0].getParameterCount() == 0);
+        Check.that("the document tells each method that is not private");
+        Check.holds(seen.isEmpty(), "it does not tell " + seen);
     }
 
-    private static String nameAndTypes(Method method) {
-        StringBuilder text = new StringBuilder(method.getName()).append('(');
-        for (Class<?> type : method.getParameterTypes()) {
-            text.append(text.charAt(text.length() - 1) == '(' ? "" : ",").append(type.getName());
-        }
-        return text.append(')').toString();
+    private static String typesOf(Method method) {
+        String types = Stream.of(method.getParameterTypes()).map(Class::getName)
+                .collect(Collectors.joining(", "));
+        return Modifier.toString(method.getModifiers()) + " " + method.getReturnType() + " "
+                + method.getName() + "(" + types + ")";
     }
 
-    private static void classesInside() {
-        Class<?>[] inside = LentSounds.class.getDeclaredClasses();
-        Check.holds("at most twelve classes", inside.length <= 12);
-        for (Class<?> one : inside) {
-            int modifiers = one.getModifiers();
-            Check.holds(one + " is private and static",
-                    Modifier.isPrivate(modifiers) && Modifier.isStatic(modifiers));
-            for (Method method : one.getDeclaredMethods()) {
-                Check.holds(method + " has no name of the face", METHODS.stream()
-                        .noneMatch(face -> face.startsWith(method.getName() + "(")));
-            }
-        }
+    private static void names() {
+        Check.that("no private method bears the name of a public one");
+        Set<String> names = METHODS.stream().map(method -> method.substring(0, method.indexOf('(')))
+                .collect(Collectors.toSet());
+        Stream.concat(Stream.of(LentSounds.class), Stream.of(LentSounds.class.getDeclaredClasses()))
+                .flatMap(one -> Stream.of(one.getDeclaredMethods()))
+                .filter(method -> !Modifier.isPublic(method.getModifiers()))
+                .forEach(method -> Check.holds(!names.contains(method.getName()),
+                        method + " does"));
     }
 
-    private static void words() throws IOException {
+    private static void headings() throws IOException {
         String source = Files.readString(Path.of("src/main/java/LentSounds.java"));
-        String code = source.replaceAll("(?s)/\\*.*?\\*/", "").replaceAll("//[^\n]*", "");
-        for (String word : FORBIDDEN_WORDS) {
-            Check.holds("the program is without " + word,
-                    !Pattern.compile("\\b" + word + "\\b").matcher(code).find());
-        }
-        for (String sign : List.of("->", "::", "\"")) {
-            Check.holds("the program is without " + sign, !code.contains(sign));
-        }
+        HEADINGS.forEach((heading, calls) -> {
+            Check.of("ERRORS", "Ahead of the calls `" + String.join("`, `", calls)
+                    + "` the interface says: ---- " + heading + ".");
+            int start = source.indexOf("// ---- " + heading + "\n");
+            Check.holds(start >= 0, "the program does not say it");
+            String below = source.substring(Math.max(start, 0) + 1).split("// ----")[0];
+            for (String call : calls) {
+                Check.holds(below.contains("public int " + call + "("), call + " is not below");
+            }
+        });
     }
 }

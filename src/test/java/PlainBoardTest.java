@@ -1,15 +1,13 @@
 /** All promises: many runs of calls, each answer compared with that of the plain board. */
-public final class PlainBoardTest {
+final class PlainBoardTest {
     private static final int RUNS = 1500;
-    private static final int CALLS = 512;
+    private static final int LONGEST_STEP = 62;
     private static final int[] WILD = {Integer.MIN_VALUE, -101, -100, -2, -1, 100, 1000, 1 << 16,
         Integer.MAX_VALUE};
 
-    private final LentSounds x = new LentSounds();
-    private final PlainBoard plain = new PlainBoard();
+    private final Board board = new Board();
     private final int furthestTick;
     private long seed;
-    private int calls = 0;
 
     private PlainBoardTest(int run) {
         seed = run * 7919L + 1;
@@ -17,15 +15,18 @@ public final class PlainBoardTest {
         furthestTick = furthest[run % furthest.length];
     }
 
-    public static void main(String[] args) {
+    static void run() {
+        Check.that("runs of calls, answered as by the plain board");
         for (int run = 0; run < RUNS && Check.wrongSoFar() == 0; run++) {
             PlainBoardTest test = new PlainBoardTest(run);
-            while (test.calls < CALLS && Check.wrongSoFar() == 0) {
+            while (test.board.calls() + LONGEST_STEP <= Board.LAST_CALL) {
                 test.step();
             }
-            Check.holds("run " + run + " agrees", Check.wrongSoFar() == 0);
+            while (test.board.calls() < Board.LAST_CALL) {
+                test.question();
+            }
+            Check.holds(Check.wrongSoFar() == 0, "this was run " + run);
         }
-        Check.finish();
     }
 
     /** The same numbers each time, so that a fault shows again. */
@@ -40,11 +41,6 @@ public final class PlainBoardTest {
         return sort == 0 ? WILD[pick(WILD.length)] : sort == 1 ? bound : pick(bound);
     }
 
-    private void due(String call, int got, int want) {
-        calls++;
-        Check.due("call " + calls + " " + call, got, want);
-    }
-
     private void step() {
         int sort = pick(100);
         if (sort < 6) {
@@ -54,7 +50,7 @@ public final class PlainBoardTest {
         } else if (sort < 44) {
             goBack();
         } else {
-            ask();
+            question();
         }
     }
 
@@ -72,113 +68,69 @@ public final class PlainBoardTest {
             String signs = "0123456789@s*,, x";
             text.setCharAt(pick(text.length()), signs.charAt(pick(signs.length())));
         }
-        text.setLength(Math.min(text.length(), pick(6) == 0 ? pick(61) : 61));
-        int last = text.lastIndexOf(",");
-        if (text.length() == 61 && last > 0 && pick(4) > 0) {
-            text.setLength(last);
+        int room = pick(6) == 0 ? pick(61) : 60;
+        if (text.length() > room) {
+            int comma = text.lastIndexOf(",", room);
+            text.setLength(comma > 0 && pick(4) > 0 ? comma : room);
         }
         return text.toString();
     }
 
     private void typeText() {
         if (pick(12) > 0) {
-            due("clearText()", x.clearText(), plain.clearText());
+            board.ask("clearText()");
         }
-        for (char c : someText().toCharArray()) {
-            due("type(" + c + ")", x.type(c), plain.type(c));
+        for (char character : someText().toCharArray()) {
+            board.ask("type(" + (int) character + ")");
         }
-        due("readCues()", x.readCues(), plain.readCues());
+        board.ask("readCues()");
+    }
+
+    private void ask(String name, int... arguments) {
+        StringBuilder call = new StringBuilder(name).append('(');
+        for (int i = 0; i < arguments.length; i++) {
+            call.append(i == 0 ? "" : ", ").append(arguments[i]);
+        }
+        board.ask(call.append(')').toString());
     }
 
     private void act() {
-        int a = about(10);
         switch (pick(12)) {
             case 0, 1, 2 -> {
                 int what = about(3);
                 int[] bounds = {5, 31, 10};
-                int value = about(what >= 0 && what < 3 ? bounds[what] : 5);
-                due("setSound(" + a + ", " + what + ", " + value + ")",
-                        x.setSound(a, what, value), plain.setSound(a, what, value));
+                ask("setSound", about(10), what, about(bounds[Math.floorMod(what, 3)]));
             }
-            case 3 -> {
-                int hands = about(5);
-                due("setHands(" + hands + ")", x.setHands(hands), plain.setHands(hands));
-            }
-            case 4 -> {
-                int hand = about(4);
-                int shelf = about(5);
-                due("send(" + hand + ", " + shelf + ")", x.send(hand, shelf),
-                        plain.send(hand, shelf));
-            }
-            case 5 -> {
-                int ticks = pick(3) == 0 ? about(21) : about(4);
-                due("setCarrying(" + ticks + ")", x.setCarrying(ticks), plain.setCarrying(ticks));
-            }
-            case 6 -> due("readCues()", x.readCues(), plain.readCues());
-            case 7 -> {
-                int cue = about(12);
-                due("removeCue(" + cue + ")", x.removeCue(cue), plain.removeCue(cue));
-            }
-            case 8, 9 -> {
-                int scene = about(6);
-                int by = pick(2) == 0 ? about(100) - pick(100) : pick(7) - 3;
-                due("shift(" + scene + ", " + by + ")", x.shift(scene, by),
-                        plain.shift(scene, by));
-            }
-            case 10 -> {
-                int scene = pick(8) == 0 ? about(6) : 6;
-                due("cutScene(" + scene + ")", x.cutScene(scene), plain.cutScene(scene));
-            }
-            default -> due("take()", x.take(), plain.take());
+            case 3 -> ask("setHands", about(5));
+            case 4 -> ask("send", about(4), about(5));
+            case 5 -> ask("setCarrying", pick(3) == 0 ? about(21) : about(4));
+            case 6 -> ask("readCues");
+            case 7 -> ask("removeCue", about(12));
+            case 8 -> ask("shift", about(6), about(100) - pick(100));
+            case 9 -> ask("shift", about(6), pick(7) - 3);
+            case 10 -> ask("cutScene", pick(8) == 0 ? about(6) : 6);
+            default -> ask("take");
         }
     }
 
     private void goBack() {
         switch (pick(5)) {
-            case 0, 1 -> due("undo()", x.undo(), plain.undo());
-            case 2, 3 -> due("keep()", x.keep(), plain.keep());
-            default -> due("restore()", x.restore(), plain.restore());
+            case 0, 1 -> ask("undo");
+            case 2, 3 -> ask("keep");
+            default -> ask("restore");
         }
     }
 
-    private void ask() {
+    private void question() {
         switch (pick(9)) {
-            case 0, 1 -> {
-                int cue = pick(3) == 0 ? about(41) : about(10);
-                int what = about(7);
-                due("cue(" + cue + ", " + what + ")", x.cue(cue, what), plain.cue(cue, what));
-            }
-            case 2 -> {
-                int sound = about(10);
-                int what = about(6);
-                due("sound(" + sound + ", " + what + ")", x.sound(sound, what),
-                        plain.sound(sound, what));
-            }
-            case 3 -> {
-                int hand = about(4);
-                int what = about(5);
-                due("hand(" + hand + ", " + what + ")", x.hand(hand, what),
-                        plain.hand(hand, what));
-            }
-            case 4 -> {
-                int scene = about(6);
-                int what = about(5);
-                due("scene(" + scene + ", " + what + ")", x.scene(scene, what),
-                        plain.scene(scene, what));
-            }
-            case 5 -> {
-                int rank = about(8);
-                due("missed(" + rank + ")", x.missed(rank), plain.missed(rank));
-            }
-            case 6 -> {
-                int hands = about(5);
-                due("ifHands(" + hands + ")", x.ifHands(hands), plain.ifHands(hands));
-            }
-            case 7 -> due("cleanTakes()", x.cleanTakes(), plain.cleanTakes());
-            default -> {
-                int what = about(12);
-                due("count(" + what + ")", x.count(what), plain.count(what));
-            }
+            case 0, 1 -> ask("cue", pick(3) == 0 ? about(41) : about(10), about(7));
+            case 2 -> ask("sound", about(10), about(6));
+            case 3 -> ask("hand", about(4), about(5));
+            case 4 -> ask("scene", about(6), about(5));
+            case 5 -> ask("missed", about(8));
+            case 6 -> ask("ifHands", about(5));
+            case 7 -> ask("cleanTakes");
+            default -> ask("count", about(12));
         }
     }
 }
