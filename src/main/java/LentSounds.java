@@ -237,12 +237,10 @@ public final class LentSounds {
             return UNKNOWN;
         }
         switch (what) {
-            case 0:
-                return now.soundShelves.get(sound);
-            case 1:
-                return now.charges.get(sound);
-            case 2:
-                return now.loudness.get(sound);
+            case SHELF:
+            case CHARGES:
+            case LOUDNESS:
+                return now.soundRow(what).get(sound);
             case 3:
                 return now.cues.sizeOfSound(sound);
             case 4:
@@ -891,6 +889,7 @@ public final class LentSounds {
             }
         }
 
+        /** Without carrying, a sound still waits for the end of the cue that used it the latest. */
         private int reasonToMiss(int cue, State board, int hand) {
             int sound = board.cues.sounds.get(cue);
             if (charges.get(sound) <= 0) {

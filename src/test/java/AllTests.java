@@ -13,6 +13,7 @@ public final class AllTests {
         ErrorsTest.run();
         PlainBoardTest.run();
         FaceTest.run();
+        ReadmeTest.run();
         LanguageTest.run();
         SentencesTest.run();
         Check.finish();

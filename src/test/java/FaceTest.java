@@ -38,11 +38,29 @@ final class FaceTest {
     }
 
     static void run() throws ReflectiveOperationException, IOException {
+        wholeFace();
         constants();
         constructor();
         methods();
         names();
         headings();
+    }
+
+    /** Each line of the document's face stands in the program, in the same order. */
+    private static void wholeFace() throws IOException {
+        Check.that("the public face is that of the document, line by line");
+        String document = Files.readString(Path.of("../shared/DOC.md"));
+        String face = document.split("```java\n")[1].split("```")[0];
+        List<String> due = face.lines().map(FaceTest::plain).toList();
+        List<String> is = Files.readString(Path.of("src/main/java/LentSounds.java")).lines()
+                .map(FaceTest::plain).filter(line -> line.startsWith("public ")).toList();
+        Check.holds(due.size() == 30 && due.get(0).equals("public final class LentSounds"),
+                "the document's face has " + due.size() + " lines");
+        Check.holds(is.equals(due.subList(0, due.size() - 1)), "it is " + is);
+    }
+
+    private static String plain(String line) {
+        return line.replaceAll("[;{]", "").strip();
     }
 
     private static void constants() throws IllegalAccessException {

@@ -205,6 +205,9 @@ final class TakesTest {
                 cue(3, 6) = 3
                 cue(1, 4) = 0
                 """);
+        Check.that("the last one of 40 cues is played like any other");
+        new Board().fill(39).runs("read 5@999s4 = 40\n cue(39, 4) = 1\n cue(39, 5) = 0\n"
+                + "cue(39, 6) = 3\n missed(36) = 38\n missed(37) = NONE");
     }
 
     private static void hand() {
